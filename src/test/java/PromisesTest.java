@@ -447,6 +447,9 @@ public final class PromisesTest {
         late.set(1, 71);
         due("15: not on day 61", late.knows(0, 1), -9);
         due("16: silent now", late.silent(), 0);
+        // Each day the child hurts 2, the widow takes 1 and the answer at 7 takes 1.
+        TheEchosWidow even = Check.of("cc05007;ch00108;cw15109;u01;p20;");
+        due("16: not in 60 days", even.silent(), -9);
         due("16: never", x.silent(), -9);
         TheEchosWidow y = new TheEchosWidow();
         due("16: one a day", y.silent(), 11);
@@ -472,6 +475,11 @@ public final class PromisesTest {
         due("17: other below", x.week(-1), -2);
         x.row(3);
         due("17: no caller", x.week(0), -3);
+        TheEchosWidow only = Check.of("cc05007;");
+        only.row(1);
+        due("17: the first is no caller", only.week(0), -3);
+        only.row(0);
+        due("17: the first of two is no caller", only.week(0), -3);
         due("17: other first", x.week(2), -2);
         due("17: hours stay", x.caller(0, 4), 19);
         due("18: answers", x.bestWeek(-1), 3);
@@ -492,6 +500,14 @@ public final class PromisesTest {
         due("18: two hurts less by the first that does it", z.bestWeek(0), 1);
         due("18: 5 - 1 - 2 - 2", z.bestWeek(1), 2);
         due("18: last", z.bestWeek(2), 2);
+        // 1 + 2 + 3 is the first that heals 6: three different ones, each in his place.
+        TheEchosWidow three = Check.of("cw15007;cw25007;cw35007;u06;");
+        due("18: three: 0", three.bestWeek(0), 0);
+        due("18: three: 1", three.bestWeek(1), 1);
+        due("18: three: 2", three.bestWeek(2), 2);
+        // At 7, not at his hour: else nobody would call at 7, and 10 of 10 would be silent on the second day.
+        TheEchosWidow late = Check.of("cc05019;u10;");
+        due("18: at 7", late.bestWeek(-1), 3);
         TheEchosWidow none = new TheEchosWidow();
         due("18: no callers", none.bestWeek(-1), -9);
         due("18: no callers, the first", none.bestWeek(0), -9);
@@ -556,6 +572,9 @@ public final class PromisesTest {
         due("22: fewest go first", y.keepAway(2, 0), 3);
         due("22: none can", y.keepAway(3, 0), -9);
         due("22: none can, how many", y.keepAway(3, 1), -9);
+        TheEchosWidow all = Check.of("ct00008;ct00109;p02;");
+        due("22: all of them", all.keepAway(2, 0), 3);
+        due("22: all, how many", all.keepAway(2, 1), 2);
         // With him he hurts 1, without him nobody calls at 7.
         TheEchosWidow z = Check.of("ct00007;p01;u01;");
         due("22: silent behind the first either way", z.keepAway(1, 0), -9);
@@ -593,6 +612,9 @@ public final class PromisesTest {
         y.set(1, 11);
         due("26: silent", y.tellsMost(), -9);
         due("25: silent", y.whose(3), 0);
+        TheEchosWidow same = Check.of("ct05207;".repeat(7));
+        due("26: all hear the same", same.tellsMost(), 0);
+        due("25: all hear the same", same.whose(2), 127);
         due("26: no callers", new TheEchosWidow().tellsMost(), -9);
     }
 
@@ -613,6 +635,9 @@ public final class PromisesTest {
         due("27: behind the widow", y.byTurns(1, 2, 1), 11);
         due("27: the one who is never near is content with the first", y.byTurns(3, 1, 1), 1);
         due("27: the other's place", y.byTurns(1, 3, 1), 10);
+        // 19 is ahead of 20 and behind 18: at 19 he is heard between the widow at 18 and the child at 20.
+        TheEchosWidow z = Check.of("cw90018;cg90020;cc05101;cc05202;u12;p05;");
+        due("27: at 19, ahead of 20", z.byTurns(2, 3, 1), 11);
     }
 
     private static void p28and29() {
