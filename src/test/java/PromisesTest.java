@@ -635,8 +635,8 @@ public final class PromisesTest {
         due("27: behind the widow", y.byTurns(1, 2, 1), 11);
         due("27: the one who is never near is content with the first", y.byTurns(3, 1, 1), 1);
         due("27: the other's place", y.byTurns(1, 3, 1), 10);
-        // 19 is ahead of 20 and behind 18: at 19 he is heard between the widow at 18 and the child at 20.
-        TheEchosWidow z = Check.of("cw90018;cg90020;cc05101;cc05202;u12;p05;");
+        // At 19 they are heard between the widow at 18, who opens it, and the child at 20, who shuts it.
+        TheEchosWidow z = Check.of("cw90018;ch00120;cc05101;cc05202;u14;p05;");
         due("27: at 19, ahead of 20", z.byTurns(2, 3, 1), 11);
     }
 
