@@ -30,13 +30,13 @@ public final class NeverThrowsTest {
             int a = far();
             int b = far();
             int c = far();
-            String before = state(x);
+            String before = Check.state(x);
             int refusedBefore = refused(x);
             int answer = one(x, call, a, b, c);
             boolean refusal = answer <= -1 && answer >= -6;
             check.due("refusals behind call " + call, refused(x), refusedBefore + (refusal ? 1 : 0));
             if (refusal) {
-                check.holds("call " + call + " (" + a + "," + b + "," + c + ") refused changes nothing", state(x).equals(before));
+                check.holds("call " + call + " (" + a + "," + b + "," + c + ") refused changes nothing", Check.state(x).equals(before));
             }
             if (lot.nextInt(9) == 0) {
                 Check.tell(x, junk());
@@ -49,22 +49,6 @@ public final class NeverThrowsTest {
         int n = lot.nextInt(40);
         for (int i = 0; i < n; i++) {
             s.append(SIGNS.charAt(lot.nextInt(SIGNS.length())));
-        }
-        return s.toString();
-    }
-
-    private static String state(TheEchosWidow x) {
-        StringBuilder s = new StringBuilder();
-        for (int what = 0; what < 9; what++) {
-            s.append(x.count(what)).append(' ');
-        }
-        for (int c = 0; c < x.count(0); c++) {
-            for (int what = 0; what < 5; what++) {
-                s.append(x.caller(c, what)).append(' ');
-            }
-        }
-        for (int w = 0; w < 8; w++) {
-            s.append(x.known(w)).append(' ');
         }
         return s.toString();
     }

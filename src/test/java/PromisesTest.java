@@ -74,26 +74,10 @@ public final class PromisesTest {
 
     private static void fault(String letters, int want) {
         TheEchosWidow x = Check.of("cc05007;k305;t6;u03;p09;");
-        int before = fingerprint(x);
+        String before = Check.state(x) + Check.refusals(x);
         due("3: \"" + letters + "\"", Check.gorge(x, letters), want);
         due("3: letters are no more behind \"" + letters + "\"", x.count(8), 0);
-        due("3: nothing comes of \"" + letters + "\"", fingerprint(x), before);
-    }
-
-    private static int fingerprint(TheEchosWidow x) {
-        int sum = 0;
-        for (int what = 0; what < 18; what++) {
-            sum = 31 * sum + x.count(what);
-        }
-        for (int c = 0; c < x.count(0); c++) {
-            for (int what = 0; what < 5; what++) {
-                sum = 31 * sum + x.caller(c, what);
-            }
-        }
-        for (int w = 0; w < 8; w++) {
-            sum = 31 * sum + x.known(w);
-        }
-        return sum;
+        CHECK.holds("3: nothing comes of \"" + letters + "\"", before.equals(Check.state(x) + Check.refusals(x)));
     }
 
     private static void p3Form() {
