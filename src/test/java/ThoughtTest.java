@@ -277,6 +277,9 @@ public final class ThoughtTest {
         bestWeekIs("ch00007;cc05007;ch00007;", 3, 1, 1, 1);
         // Silent at 15 and at 12, not at 9: the widow is sent twice, then he.
         bestWeekIs("cc05007;cw35007;u15;", 1, 1, 1, 0);
+        CHECK.begin("BEST WEEK: at 7 of each DAY, nobody else");
+        // At 19 nobody would call at 7, and 10 would be 11 on the second day; the child at 1 would hurt.
+        bestWeekIs("cc05019;ch00001;u10;", 3, 0, 0, 0);
         CHECK.begin("BEST WEEK: then the least HURT");
         bestWeekIs("cc00007;cw10007;u05;", 0, 1, 1, 1);
         bestWeekIs("ct00007;cc00007;u05;", 0, 1, 1, 1);
@@ -463,6 +466,12 @@ public final class ThoughtTest {
         due("both at 19", Check.of(gorge).byTurns(1, 2, 1), 11);
         due("the other at 19", Check.of(gorge).byTurns(3, 1, 1), 1);
         due("the first at 19", Check.of(gorge).byTurns(1, 3, 1), 10);
+        CHECK.begin("TURNS: neither, not one of them alone");
+        // At 7 the child of number 2 stands between them: 0 ahead of her is heard, 3 behind her is not and hurts 8.
+        // At 19 the widow of number 1 stands between them: she opens it for 3, unless 0 has hurt 6 there ahead of her.
+        String between = "cg60020;cw30019;ch00007;cg80000;u10;";
+        due("3 at 19, 0 at 7", Check.of(between).byTurns(3, 0, 1), 10);
+        due("0 at 7, 3 at 19", Check.of(between).byTurns(0, 3, 1), 1);
         CHECK.begin("TURNS: an HOUR 7 or 19 (a choice 0, 1), neither an hour less nor more");
         // The widow opens it at 7 or at 19: by number ahead of those who call in that hour, or behind them.
         due("ahead of them at 7", Check.of("cw95007;cc05000;cc05100;u15;").byTurns(1, 2, 1), 0);
