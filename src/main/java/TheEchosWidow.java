@@ -23,6 +23,7 @@ public final class TheEchosWidow {
     private static final int MOST_HEALING = 200;
     private static final int MOST_LOTS = 20;
     private static final int LOT_DAYS = 5;
+    private static final int WITHOUT_SIGN = 0x7fffffff;
     private static final int SEVEN = 7;
     private static final int NINETEEN = 19;
     private static final int FORGETS_FROM = 10;
@@ -496,7 +497,7 @@ public final class TheEchosWidow {
             think();
             for (int c = 0; c < mind.callers; c++) {
                 seed = seed * 1664525 + 1013904223;
-                put(mind.tones, c, (seed & Integer.MAX_VALUE) / 256 % TUNES);
+                put(mind.tones, c, (seed & WITHOUT_SIGN) / 256 % TUNES);
             }
             mind.passDays(LOT_DAYS, EVERYBODY);
             answersInAll += mind.heard.answered;
@@ -909,9 +910,9 @@ public final class TheEchosWidow {
             return letter == NO_LETTER ? -1 : KIND_LETTERS.indexOf((char) letter);
         }
 
-        /** How far the next statement is from one; 1 at least, so that every walk ends. */
+        /** How far the next statement is from one. */
         private int stepFrom(int place) {
-            return Math.max(1, formOf(letterAt(place)).length());
+            return formOf(letterAt(place)).length();
         }
 
         /** The place of the first letter with which no gorge can go on, or NONE. */
@@ -919,7 +920,7 @@ public final class TheEchosWidow {
             if (length == 0) {
                 return 0;
             }
-            for (int place = 0; place < length; place += stepFrom(place)) {
+            for (int place = 0; place < length; place += Math.max(1, stepFrom(place))) {
                 String form = formOf(letterAt(place));
                 if (form.isEmpty()) {
                     return place;
@@ -937,7 +938,7 @@ public final class TheEchosWidow {
         int faultOfSense(int callersBefore, int dayBefore) {
             int callers = callersBefore;
             int day = dayBefore;
-            for (int place = 0; place < length; place += stepFrom(place)) {
+            for (int place = 0; place < length; place += Math.max(1, stepFrom(place))) {
                 if (!isSensible(place, callers, day)) {
                     return place;
                 }
@@ -972,7 +973,7 @@ public final class TheEchosWidow {
         /** Lets every statement of a faultless text come: how many there were. */
         int comeTo(Gorge gorge) {
             int statements = 0;
-            for (int place = 0; place < length; place += stepFrom(place)) {
+            for (int place = 0; place < length; place += Math.max(1, stepFrom(place))) {
                 bring(place, gorge);
                 statements++;
             }
@@ -1001,7 +1002,8 @@ public final class TheEchosWidow {
                     gorge.patience = numberAt(place + 1);
                     break;
                 case 'd':
-                    for (int i = 0; i < numberAt(place + 1); i++) {
+                    int days = numberAt(place + 1);
+                    for (int i = 0; i < days; i++) {
                         gorge.passDay(EVERYBODY);
                     }
                     break;
